@@ -626,12 +626,15 @@ public final class VtableTown {
     /** All that the CLASS names must be LOADED. */
     void learn(int cls) {
       of[cls] = allOf(cls);
-      if (!told.isFace[cls]) {
-        for (int name = 1; name < NAMES; name++) {
-          found[cls * NAMES + name] = lookInLine(cls, name);
-        }
-        learnTable(cls);
+      if (told.isFace[cls]) {
+        return;
       }
+      for (int name = 1; name < NAMES; name++) {
+        int inLine = lookInLine(cls, name);
+        found[cls * NAMES + name] =
+            inLine == NONE ? lookInInterfaces(havingMethod(of[cls], name), name) : inLine;
+      }
+      learnTable(cls);
     }
 
     private int allOf(int cls) {
@@ -648,6 +651,7 @@ public final class VtableTown {
       return set;
     }
 
+    /** NONE, if none of the LINE has a METHOD for the NAME. */
     private int lookInLine(int cls, int name) {
       int at = cls;
       for (int n = 0; n < CLASSES && at != NONE; n++) {
@@ -657,7 +661,7 @@ public final class VtableTown {
         }
         at = told.parents[at];
       }
-      return lookInInterfaces(havingMethod(of[cls], name), name);
+      return NONE;
     }
 
     private int havingMethod(int set, int name) {
@@ -670,11 +674,18 @@ public final class VtableTown {
       return having;
     }
 
+    /** Among those that have a METHOD for the NAME, each one rules out all others that it is OF. */
     private int lookInInterfaces(int having, int name) {
+      int ruledOut = 0;
+      for (int i = 0; i < CLASSES; i++) {
+        if (isIn(having, i)) {
+          ruledOut |= of[i] & ~(1 << i);
+        }
+      }
       int bodies = 0;
       int last = NONE;
       for (int i = 0; i < CLASSES; i++) {
-        if (isIn(having, i) && told.has[rowOf(i, name)] == BODY && !isOutdone(i, having)) {
+        if (isIn(having & ~ruledOut, i) && told.has[rowOf(i, name)] == BODY) {
           bodies++;
           last = i;
         }
@@ -683,15 +694,6 @@ public final class VtableTown {
         return FAULT_FOUND - NO_BODY_FOUND;
       }
       return bodies == 1 ? last : FAULT_FOUND - MANY_BODIES_FOUND;
-    }
-
-    private boolean isOutdone(int cls, int having) {
-      for (int i = 0; i < CLASSES; i++) {
-        if (i != cls && isIn(having, i) && isIn(of[i], cls)) {
-          return true;
-        }
-      }
-      return false;
     }
 
     private void learnTable(int cls) {
@@ -842,7 +844,7 @@ public final class VtableTown {
 
     // ---- loading
 
-    /** Answers the FAULT, or 0. The set of those being LOADED keeps this from going deeper than there are CLASSES. */
+    /** Answers the FAULT, or 0. The set of those being LOADED limits the depth to that of the CLASSES told. */
     private int loadClass(int cls) {
       if (cls < 0 || cls >= told.count) {
         return NOT_TOLD;
@@ -856,13 +858,18 @@ public final class VtableTown {
       loading |= 1 << cls;
       int broken = loadWhatIsNamed(cls);
       loading &= ~(1 << cls);
-      if (broken == 0) {
-        becomeLoaded(cls);
-      } else {
+      if (broken != 0) {
         state.status[cls] = BROKEN;
         state.faults[cls] = broken;
+        return broken;
       }
-      return broken;
+      finder.learn(cls);
+      becomeLoaded(cls);
+      if (!told.isFace[cls]) {
+        openPlaces(cls);
+        turnBackLine(cls);
+      }
+      return 0;
     }
 
     private int loadWhatIsNamed(int cls) {
@@ -885,15 +892,10 @@ public final class VtableTown {
     }
 
     private void becomeLoaded(int cls) {
-      finder.learn(cls);
       state.status[cls] = LOADED;
       state.orders[cls] = state.loaded;
       state.loaded++;
       cost += COST_OF_LOADED;
-      if (!told.isFace[cls]) {
-        openPlaces(cls);
-        turnBackLine(cls);
-      }
     }
 
     /** As a CLASS becomes LOADED no other one is OF it yet. */
@@ -939,7 +941,7 @@ public final class VtableTown {
 
     // ---- initialising, and objects
 
-    /** The CLASS is LOADED. One that is no longer ASLEEP keeps this from going deeper than there are CLASSES. */
+    /** The CLASS must be LOADED. None is ASLEEP twice, so the CLASSES told limit the depth. */
     private void initialise(int cls) {
       if (state.wakes[cls] == FAILED) {
         fault = FAILED_BEFORE;
@@ -1015,7 +1017,7 @@ public final class VtableTown {
 
     // ---- FRAMES and STEPS
 
-    /** Runs a row of STEPS; answers what there is at its end (free, if there is a FAULT). MOST_FRAMES limits the depth. */
+    /** Answers what there is at the end of the row (free, if there is a FAULT). MOST_FRAMES limits the depth. */
     private int runRow(int cls, int name, int object, int caller) {
       if (frames >= MOST_FRAMES) {
         fault = FRAMES_SPENT;

@@ -6,7 +6,7 @@ import java.util.function.LongSupplier;
  * each answer, and each exception, must be the same.
  */
 public final class ModelTest {
-  private static final int RUNS = 640;
+  private static final int RUNS = 480;
   private static final int CALLS = 500;
 
   private static long seed;
@@ -56,7 +56,9 @@ public final class ModelTest {
       int style = run % 8;
       VtableTown x = new VtableTown();
       TownModel m = new TownModel();
-      if (style >= 6) {
+      if (style == 7 && chance(50)) {
+        tellDrivers(run, x, m);
+      } else if (style >= 6) {
         tellTree(run, x, m, style);
       } else {
         tellAll(run, x, m, style);
@@ -81,7 +83,7 @@ public final class ModelTest {
         System.out.println("no run ended by the fault " + fault);
       }
     }
-    String[] told = {"hits", "gave up", "turned back", "frames turned back (warm below 0)"};
+    String[] told = {"hits", "gave up", "turned back", "a second run that costs more"};
     for (int i = 0; i < told.length; i++) {
       if (seen[20 + i] == 0) {
         wrong++;
@@ -98,7 +100,7 @@ public final class ModelTest {
     for (int c = 1; c < count; c++) {
       int parent = chance(25) ? -1 : below(c);
       int set = 0;
-      boolean face = chance(style == 0 ? 0 : 35);
+      boolean face = chance(style == 0 ? 0 : style == 1 ? 60 : 35);
       for (int i = 0; i < c; i++) {
         if (isFace(m, i) && chance(30)) {
           set |= 1 << i;
@@ -135,6 +137,29 @@ public final class ModelTest {
           same(run, c, "method", answer(() -> x.method(cls, name)), answer(() -> m.method(cls, name)));
           tellBranches(run, x, m, cls, name, count);
         }
+      }
+    }
+  }
+
+  /** A family that shares places, and classes that make some of it in a row. */
+  private static void tellDrivers(int run, VtableTown x, TownModel m) {
+    for (int c = 0; c < 11; c++) {
+      int cls = c;
+      int p = c == 0 || c > 6 ? -1 : 0;
+      same(run, c, "plain", answer(() -> x.plain(p, 0)), answer(() -> m.plain(p, 0)));
+      int name = c == 0 || c > 6 ? 1 : 2;
+      same(run, c, "method", answer(() -> x.method(cls, name)), answer(() -> m.method(cls, name)));
+      for (int i = c == 0 ? 4 : 0; i < 6; i++) {
+        int kind = c == 0 ? 3 : c > 6 ? 5 : 0;
+        int a = c == 0 ? 2 : c > 6 ? below(7) : c;
+        int b = c > 6 ? 1 : 0;
+        same(run, i, "step", answer(() -> x.step(cls, name, kind, a, b)), answer(() -> m.step(cls, name, kind, a, b)));
+      }
+      if (c == 0) {
+        same(run, c, "method", answer(() -> x.method(0, 2)), answer(() -> m.method(0, 2)));
+      }
+      if (chance(50)) {
+        same(run, c, "load", answer(() -> x.load(cls)), answer(() -> m.load(cls)));
       }
     }
   }
@@ -306,12 +331,9 @@ public final class ModelTest {
       case 22:
         same(run, call, "wouldTurn" + at, answer(() -> x.wouldTurn(t)), answer(() -> m.wouldTurn(t)));
         break;
-      case 23: {
-        String due = answer(() -> m.wouldWarm(t, called));
-        seen[23] += due.startsWith("-") ? 1 : 0;
-        same(run, call, "wouldWarm" + at, answer(() -> x.wouldWarm(t, called)), due);
+      case 23:
+        warm(run, call, x, m, t, called);
         break;
-      }
       default:
         if (chance(20)) {
           same(run, call, "digest", answer(x::digest), answer(m::digest));
@@ -319,7 +341,16 @@ public final class ModelTest {
     }
   }
 
+  private static void warm(int run, int call, VtableTown x, TownModel m, int t, int called) {
+    String due = answer(() -> m.wouldWarm(t, called));
+    seen[23] += due.startsWith("-") ? 1 : 0;
+    same(run, call, "wouldWarm(" + t + ", " + called + ")", answer(() -> x.wouldWarm(t, called)), due);
+  }
+
   private static void aRun(int run, int call, VtableTown x, TownModel m, int t, int called) {
+    if (chance(50)) {
+      warm(run, call, x, m, t, called);
+    }
     String due = answer(() -> m.run(t, called));
     for (int fault = 1; fault <= 9; fault++) {
       seen[fault] += due.equals("-1000" + fault) ? 1 : 0;

@@ -90,6 +90,7 @@ public final class PromiseTest {
     runSupers();
     runStatics();
     runLimits();
+    longLine();
     runFaults();
     ofClass();
     finds();
@@ -310,6 +311,7 @@ public final class PromiseTest {
     due("field 3", x.field(0, 3) ? 1 : 0, 1);
     due("field 3 again", x.field(0, 3) ? 1 : 0, 0);
     due("field 0", x.field(0, 0) ? 1 : 0, 1);
+    due("field 3 is declared still", x.field(0, 3) ? 1 : 0, 0);
     for (int bad : new int[] {-1, 4, Integer.MIN_VALUE, Integer.MAX_VALUE}) {
       refused(x, "field(0, " + bad + ")", INDEX, () -> x.field(0, bad) ? 1 : 0);
       refused(x, "field(1, " + bad + ")", INDEX, () -> x.field(1, bad) ? 1 : 0);
@@ -403,6 +405,8 @@ public final class PromiseTest {
     body(x, 1, 1);
     due("an interface", x.run(1, 1), -10003);
     due("that is loaded all the same", x.ofClass(1, 1), 1);
+    x.face(2048);
+    due("an interface that is broken", x.run(2, 1), -10001);
     due("and not initialised", x.ofClass(1, 3), 0);
     runHolds();
     runIs();
@@ -587,18 +591,7 @@ public final class PromiseTest {
 
   /** Twenty FRAMES are allowed, one more is not. */
   private static void runDeep() {
-    VtableTown x = new VtableTown();
-    for (int cls = 0; cls < 4; cls++) {
-      x.plain(-1, 0);
-      for (int name = 1; name <= 4; name++) {
-        body(x, cls, name, CALL, name + 1, 0);
-      }
-      if (cls < 3) {
-        body(x, cls, 5, MAKE, cls + 1, 1);
-      } else {
-        body(x, cls, 5, ADD, 7, 0);
-      }
-    }
+    VtableTown x = twentyFrames(ADD, 7);
     x.plain(-1, 0);
     body(x, 4, 1, MAKE, 0, 1);
     due("20 frames", x.run(0, 1), 7);
@@ -612,7 +605,30 @@ public final class PromiseTest {
     body(y, 0, 0, READ, 0, 0);
     due("makers end, their frames are over", y.run(0, 1), -10009);
     due("the 21st object is made, though its maker has no frame", y.ofClass(0, 7), 21);
+    VtableTown z = twentyFrames(READ, 5);
+    z.plain(-1, 0);
+    initialiser(z, 4, READ, 11, 0);
+    z.plain(4, 0);
+    z.run(4, 1);
+    due("a failed parent in the 20th frame, ahead of the frame that there is not", z.run(0, 1), -10006);
     initialiserAsFrame();
+  }
+
+  /** Of 0 to 3 the NAMES 1 to 5 call each other in a row; in the 20th FRAME there is one STEP. */
+  private static VtableTown twentyFrames(int kind, int a) {
+    VtableTown x = new VtableTown();
+    for (int cls = 0; cls < 4; cls++) {
+      x.plain(-1, 0);
+      for (int name = 1; name <= 4; name++) {
+        body(x, cls, name, CALL, name + 1, 0);
+      }
+      if (cls < 3) {
+        body(x, cls, 5, MAKE, cls + 1, 1);
+      } else {
+        body(x, cls, 5, kind, a, 0);
+      }
+    }
+    return x;
   }
 
   /** 20 FRAMES of a call chain; an INITIALISER that comes in the 20th has no FRAME left. */
@@ -777,11 +793,38 @@ public final class PromiseTest {
     due("through an interface that has none", x.finds(4, 2), 1);
     due("a maker is no name for this", x.finds(5, 1), -14);
     due("the child names an abstract one that outdoes the body", x.finds(6, 1), -14);
-    x.plain(4, 0);
+    x.plain(-1, 0);
     body(x, 7, 1);
+    x.open(7, 2);
     x.plain(7, 2);
     x.load(8);
     due("the line goes ahead of all interfaces", x.finds(8, 1), 7);
+    due("also an abstract one", x.finds(8, 2), -14);
+    VtableTown y = new VtableTown();
+    y.face(2);
+    y.face(0);
+    body(y, 0, 1);
+    body(y, 1, 1);
+    y.plain(-1, 3);
+    y.load(2);
+    due("the first one outdoes the second", y.finds(2, 1), 0);
+  }
+
+  /** A LINE of all twelve: the METHOD, the FIELD and the MAKER of its end are found and run. */
+  private static void longLine() {
+    VtableTown x = new VtableTown();
+    for (int cls = 0; cls < 12; cls++) {
+      x.plain(cls - 1, 0);
+      body(x, cls, 0, GET, 0, 0, ADD, 1, 0, PUT, 0, 0);
+    }
+    x.field(0, 0);
+    body(x, 0, 1, GET, 0, 0);
+    body(x, 11, 2, CALL, 1, 0, MAKE, 0, 1, GET, 0, 0);
+    due("12 makers, then 1, then 12", x.run(11, 2), 25);
+    due("what the end of the line has", x.finds(11, 1), 0);
+    due("its slot", x.slot(11, 1) * 10 + x.slot(11, 2), 1);
+    due("of all", x.ofClass(11, 5), 4095);
+    due("a second object begins with 0, too", x.run(11, 1), 12);
   }
 
   private static void slot() {
@@ -1073,12 +1116,37 @@ public final class PromiseTest {
     due("has not failed", x.run(7, 1), 0);
     due("a static is put back", x.ofClass(7, 3), 2);
     wouldChangesNothing();
+    wouldGiveUp();
     for (int bad : new int[] {-1, 12, Integer.MIN_VALUE, Integer.MAX_VALUE}) {
       refused(x, "wouldRun(" + bad + ", 1)", INDEX, () -> x.wouldRun(bad, 1));
       refused(x, "wouldRun(0, " + bad + ")", INDEX, () -> x.wouldRun(0, bad));
     }
     refused(x, "wouldRun(0, 0)", INDEX, () -> x.wouldRun(0, 0));
     refused(x, "wouldRun(0, 6)", INDEX, () -> x.wouldRun(0, 6));
+  }
+
+  /** The fifth CLASS would make the PLACE of a MAKER, the very first STEP, give up. */
+  private static void wouldGiveUp() {
+    VtableTown x = new VtableTown();
+    x.plain(-1, 0);
+    body(x, 0, 0, CALL, 2, 0);
+    body(x, 0, 1);
+    body(x, 0, 2);
+    for (int cls = 1; cls <= 4; cls++) {
+      x.plain(0, 0);
+      body(x, cls, 2);
+      x.load(cls);
+    }
+    for (int cls = 0; cls <= 3; cls++) {
+      x.run(cls, 1);
+    }
+    due("places, turned back, misses", x.many(5) * 100 + x.many(8) * 10 + x.many(10), 114);
+    due("it would cost a miss", x.wouldCost(4, 1), 1 + 10 + 6);
+    due("it has not given up", x.many(7) + x.ofPlace(0, 0, 0, 4), 0);
+    due("its cache is there", x.ofPlace(0, 0, 0, 1), 4);
+    due("it would be a hit", x.wouldCost(3, 1), 1 + 5 + 6);
+    x.run(4, 1);
+    due("it has given up", x.many(7) + x.ofPlace(0, 0, 0, 4), 2);
   }
 
   private static void wouldChangesNothing() {
