@@ -185,6 +185,24 @@ public final class AskEdgeTest extends Edges {
       }
       throwsJust("the MAKER of an INTERFACE", INDEX, () -> x.ofPlace(1, 0, 0, 0));
     });
+    edge("promise 14", "a STEP ahead of a row and one behind it are none, though CALLS stand in the rows beside it", () -> {
+      VtableTown x = plains(12);
+      for (int cls = 0; cls < 12; cls++) {
+        for (int name = 0; name <= 5; name++) {
+          body(x, cls, name, times(6, CALL, 5, 0));
+        }
+        x.load(cls);
+      }
+      for (int at = 0; at < 72; at++) {
+        int cls = at / 6;
+        int name = at % 6;
+        for (int bad : new int[] {-1, -2, -6, 6, 7, 12}) {
+          throwsJust("ofPlace(" + cls + ", " + name + ", " + bad + ", 0)", INDEX, () -> x.ofPlace(cls, name, bad, 0));
+        }
+        throwsJust("the NAME -1", INDEX, () -> x.ofPlace(cls, -1, name, 0));
+        throwsJust("the NAME 6", INDEX, () -> x.ofPlace(cls, 6, name, 0));
+      }
+    });
   }
 
   private static void noSuchPlace() {

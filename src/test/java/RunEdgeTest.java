@@ -508,6 +508,23 @@ public final class RunEdgeTest extends Edges {
       due("each gives its own one twice", x.run(deepClass(0), deepName(0)), 2 * 210);
       due("once more", x.run(deepClass(0), deepName(0)), 2 * 210);
     });
+    edge("section 4", "each FIELD is 0 in a new object, from the first one of the first CLASS to the last one of the last", () -> {
+      VtableTown x = plains(12);
+      for (int cls = 0; cls < 12; cls++) {
+        for (int field = 0; field <= 3; field++) {
+          x.field(cls, field);
+          body(x, cls, field + 1, GET, field, 0, ADD, 99, 0, PUT, field, 0);
+        }
+        body(x, cls, 5, MAKE, cls, 4, MAKE, cls, 4, MAKE, cls, 1, MAKE, cls, 1);
+      }
+      for (int cls = 11; cls >= 0; cls--) {
+        for (int field = 3; field >= 0; field--) {
+          due("in the first object", x.run(cls, field + 1), 99);
+          due("in the second one", x.run(cls, field + 1), 99);
+        }
+        due("in four, made within another one", x.run(cls, 5), 4 * 99);
+      }
+    });
     edge("section 4", "a MAKER, CALL (DIRECT or not), SUPER and IS go on with the object made last, not with the outer one", () -> {
       VtableTown x = plains(1);
       x.field(0, 0);
