@@ -348,8 +348,10 @@ public final class VtableTown {
       d = digestOfPlaces(d, cls);
     }
     for (int cls = 0; cls < told.count; cls++) {
-      d = d * 31 + wouldRun(cls, 1);
-      d = d * 31 + wouldCost(cls, 1);
+      machine.keepState();
+      d = d * 31 + machine.runFromOutside(cls, 1);
+      d = d * 31 + state.lastCost;
+      machine.putStateBack();
     }
     return d;
   }
@@ -629,12 +631,14 @@ public final class VtableTown {
       if (told.isFace[cls]) {
         return;
       }
+      int parent = told.parents[cls];
+      lengths[cls] = parent == NONE ? 0 : lengths[parent];
       for (int name = 1; name < NAMES; name++) {
+        int having = havingMethod(of[cls], name);
         int inLine = lookInLine(cls, name);
-        found[cls * NAMES + name] =
-            inLine == NONE ? lookInInterfaces(havingMethod(of[cls], name), name) : inLine;
+        found[cls * NAMES + name] = inLine == NONE ? lookInInterfaces(having, name) : inLine;
+        learnSlot(cls, name, having != 0);
       }
-      learnTable(cls);
     }
 
     private int allOf(int cls) {
@@ -696,19 +700,16 @@ public final class VtableTown {
       return bodies == 1 ? last : FAULT_FOUND - MANY_BODIES_FOUND;
     }
 
-    private void learnTable(int cls) {
+    /** A NAME keeps its place in the PARENT's TABLE; a new one comes to the end, so NAMES go by numbers. */
+    private void learnSlot(int cls, int name, boolean has) {
       int parent = told.parents[cls];
-      int length = parent == NONE ? 0 : lengths[parent];
-      for (int name = 1; name < NAMES; name++) {
-        int inherited = parent == NONE ? NONE : slots[parent * NAMES + name];
-        if (inherited == NONE && havingMethod(of[cls], name) != 0) {
-          slots[cls * NAMES + name] = length;
-          length++;
-        } else {
-          slots[cls * NAMES + name] = inherited;
-        }
+      int inherited = parent == NONE ? NONE : slots[parent * NAMES + name];
+      if (inherited == NONE && has) {
+        slots[cls * NAMES + name] = lengths[cls];
+        lengths[cls]++;
+      } else {
+        slots[cls * NAMES + name] = inherited;
       }
-      lengths[cls] = length;
     }
   }
 
